@@ -312,6 +312,7 @@ public final class PromiseTest {
         y.likeness(50);
         y.law(1, 4, 1, 1);
         y.next();
+        due("14: no SHAKES of one FAMILY", y.measure(0, 1), 0);
         y.shake(bands(100));
         y.shake(bands(0, 100));
         due("14: hung together from outside the span", y.measure(0, 1), 2);
@@ -717,6 +718,17 @@ public final class PromiseTest {
         due("28: 1 to the fourth", y.chance(0, 0), 1);
         due("28: 99 to the fourth", y.chance(0, 1), 99 * 99 * 99 * 99);
         due("28: from further down", y.chance(1, 0), 100);
+
+        MountainWatch z = new MountainWatch();
+        z.node(0, 0, 100);
+        z.fear(1, true);
+        due("28: an only child has all", z.chance(0, 0), 100000000);
+        z.share(1, 10, 20);
+        z.node(0, 0, 10);
+        z.node(0, 30, 70);
+        due("28: all children at their HIGHS, the least", z.chance(0, 0), 20000000);
+        z.fear(3, true);
+        due("28: all children at their HIGHS, the greatest", z.chance(0, 1), 90000000);
     }
 
     private static void promise29() {
