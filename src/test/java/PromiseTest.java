@@ -1,42 +1,5 @@
 /** Each promise of the document: ordinary inputs, the edges that it names, and wrong inputs. */
-public final class PromiseTest {
-    private static final int NONE = -6, UNKNOWN = -1, OUTSIDE = -2, STATE = -3, FULL = -4, NO = -5;
-    private static final int LEAST = Integer.MIN_VALUE, MOST = Integer.MAX_VALUE;
-    private static final Check CHECK = new Check();
-
-    private static void due(String call, long got, long want) {
-        CHECK.due(call, got, want);
-    }
-
-    private static long bands(int... band) {
-        long told = 0;
-        for (int i = band.length - 1; i >= 0; i--) {
-            told = told * 101 + band[i];
-        }
-        return told;
-    }
-
-    private static MountainWatch withShakes(long... bands) {
-        MountainWatch x = new MountainWatch();
-        for (long b : bands) {
-            x.shake(b);
-        }
-        return x;
-    }
-
-    private static void days(MountainWatch x, int n) {
-        for (int i = 0; i < n; i++) {
-            x.next();
-        }
-    }
-
-    private static void message(String name, MountainWatch x, boolean drills, int number, int... want) {
-        for (int what = 0; what < 3; what++) {
-            due(name + ": message(" + drills + ", " + number + ", " + what + ")",
-                    x.message(drills, number, what), want[what]);
-        }
-    }
-
+public final class PromiseTest extends TestBase {
     private static void promise1() {
         MountainWatch x = new MountainWatch();
         int[] want = {0, 0, 0, 0, 0, 0, 0, 0, 0, 1, 0};
