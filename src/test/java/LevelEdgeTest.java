@@ -495,6 +495,13 @@ public final class LevelEdgeTest extends TestBase {
         x.hold(3, 1);
         x.next();
         message("17: a HOLD above all LAWS that are TRUE", x, false, 1, 0, 3, 20);
+        MountainWatch y = new MountainWatch();
+        for (int i = 0; i < 8; i++) {
+            y.law(4, 6, 1, 1);
+        }
+        y.hold(4, 1);
+        y.next();
+        message("17: a HOLD, where none of 8 LAWS is TRUE", y, false, 1, 0, 4, 20);
     }
 
     // ---- 18 hold

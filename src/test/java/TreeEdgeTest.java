@@ -326,6 +326,8 @@ public final class TreeEdgeTest extends TestBase {
         chanceIs("both bounds", feared(withChildren(40, 90, 20, 50), 1), 0, 50000000, 80000000);
         chanceIs("LOWS are 100", feared(withChildren(30, 100, 70, 100), 1), 0, 30000000, 30000000);
         chanceIs("HIGHS are 100", feared(withChildren(0, 30, 0, 70), 1), 0, 30000000, 30000000);
+        chanceIs("one hundredth beyond LOWS", feared(withChildren(0, 100, 99, 99), 1), 0, 1000000, 1000000);
+        chanceIs("one hundredth below HIGHS", feared(withChildren(0, 2, 0, 99), 1), 0, 1000000, 2000000);
         chanceIs("six children", feared(withChildren(5, 30, 5, 30, 5, 30, 5, 30, 5, 30, 5, 30), 2, 6), 0,
                 10000000, 60000000);
         chanceIs("six children, four of them", feared(withChildren(5, 30, 5, 30, 5, 30, 5, 30, 5, 30, 5, 30), 1, 3, 4, 5),
@@ -371,6 +373,16 @@ public final class TreeEdgeTest extends TestBase {
             x.fear(node, true);
         }
         chanceIs("all but that END", x, 0, SURE - 96059601, SURE - 1);
+    }
+
+    private static void chanceOf24Nodes() {
+        MountainWatch x = feared(withAllNodes(), 23);
+        chanceIs("24 NODES", x, 0, 0, SURE);
+        chanceIs("the last parent", x, 3, 0, SURE);
+        chanceIs("the last NODE", x, 23, SURE, SURE);
+        x.share(23, 1, 99);
+        x.share(3, 1, 99);
+        chanceIs("24 NODES, with bounds", x, 0, 10000, 98010000);
     }
 
     // ---- 29 ofNode
@@ -424,6 +436,7 @@ public final class TreeEdgeTest extends TestBase {
         chanceOfChildren();
         chanceOfChildrenThatHaveChances();
         chanceFourBelow();
+        chanceOf24Nodes();
         ofNodeWhat();
         ofTheFirstAndTheLastNode();
         CHECK.end();
